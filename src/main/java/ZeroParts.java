@@ -147,7 +147,7 @@ public final class ZeroParts {
             case 0:
                 return Integer.bitCount(set);
             case 1:
-                return table.follow(now).totals[set];
+                return table.follow(now).totalOf(set);
             case 2:
                 return table.follow(now).isBlock(set) ? 1 : 0;
             case 3:
@@ -177,7 +177,7 @@ public final class ZeroParts {
             case 0:
                 return places;
             case 1:
-                return table.follow(now).totals[places];
+                return table.follow(now).totalOf(places);
             case 2:
                 return table.follow(now).isBlock(places) ? 1 : 0;
             default:
@@ -198,7 +198,7 @@ public final class ZeroParts {
             case 4:
                 return now.size;
             case 5:
-                return table.follow(now).totals[now.allPlaces()];
+                return table.follow(now).totalOf(now.allPlaces());
             case 6:
                 return contains(sums(), NOTHING) ? 0 : 1;
             case 7:
@@ -247,7 +247,7 @@ public final class ZeroParts {
             return 1;
         }
         table.follow(now);
-        if (table.totals[places] != NOTHING) {
+        if (table.totalOf(places) != NOTHING) {
             return 2;
         }
         return table.isBlock(places) ? 0 : 3;
@@ -809,8 +809,12 @@ public final class ZeroParts {
             return this;
         }
 
+        int totalOf(int set) {
+            return isSet(set) ? totals[set] : NONE;
+        }
+
         boolean isBlock(int set) {
-            return kinds[set] == BLOCK;
+            return isSet(set) && kinds[set] == BLOCK;
         }
 
         int blockOrNone(int index) {
@@ -875,12 +879,12 @@ public final class ZeroParts {
 
         int lengthsOf(int set) {
             tableSplits();
-            return lengths[set];
+            return isSet(set) ? lengths[set] : 0;
         }
 
         int splitsOf(int set) {
             tableSplits();
-            return splits[set];
+            return isSet(set) ? splits[set] : 0;
         }
 
         /** The greatest number of blocks in a split of the set; NONE if it has no split. */
@@ -951,6 +955,10 @@ public final class ZeroParts {
                 }
             }
             return totals[set] == NOTHING ? BLOCK : FREE;
+        }
+
+        private static boolean isSet(int set) {
+            return set >= 0 && set < MOST_SETS;
         }
 
         private void tableSplits() {
@@ -1047,16 +1055,20 @@ public final class ZeroParts {
             if (peek() == END) {
                 return false;
             }
-            return readWord() && readNumbers() && readSemicolon();
+            word = readWord();
+            return word != null && readNumbers(word.numbers) && readSemicolon();
         }
 
-        private boolean readWord() {
+        private Word readWord() {
             int start = cursor;
             while (cursor < length && isLetter(peek())) {
                 cursor++;
             }
-            word = wordBetween(start, cursor);
-            return word != null || failAt(start);
+            Word found = wordBetween(start, cursor);
+            if (found == null) {
+                failAt(start);
+            }
+            return found;
         }
 
         private Word wordBetween(int start, int end) {
@@ -1080,13 +1092,13 @@ public final class ZeroParts {
             return true;
         }
 
-        private boolean readNumbers() {
+        private boolean readNumbers(int due) {
             first = 0;
             second = 0;
-            if (word.numbers >= 1) {
+            if (due >= 1) {
                 first = readNumber();
             }
-            if (word.numbers >= 2 && first != NONE) {
+            if (due >= 2 && first != NONE) {
                 second = readNumber();
             }
             return first != NONE && second != NONE;
@@ -1115,7 +1127,8 @@ public final class ZeroParts {
         private boolean readSemicolon() {
             skipSpaces();
             if (peek() != ';') {
-                return failAt(cursor);
+                failAt(cursor);
+                return false;
             }
             cursor++;
             return true;
@@ -1127,9 +1140,8 @@ public final class ZeroParts {
             }
         }
 
-        private boolean failAt(int index) {
+        private void failAt(int index) {
             fault = index;
-            return false;
         }
 
         private int peek() {

@@ -6,6 +6,7 @@ public final class PromisesTest {
     public static void main(String[] args) {
         promise1NewObject();
         promise2Begin();
+        promise2BeginWithSameElements();
         promise3Add();
         promise4RemoveAt();
         promise5Lay();
@@ -119,6 +120,26 @@ public final class PromisesTest {
         }
     }
 
+    /** The same elements in another group, with no question between, are answered anew. */
+    private static void promise2BeginWithSameElements() {
+        ZeroParts z = with(6, 2, 3, 3);
+        same("3 + 3 in 6 and 2", z.set(3, 1), 0);
+        z.begin(4, 2);
+        z.add(3);
+        z.add(3);
+        same("3 + 3 in 4 and 2", z.set(3, 1), 2);
+        same("block in 4 and 2", z.set(3, 2), 0);
+        z.begin(4, 3);
+        z.add(4);
+        z.add(4);
+        same("4 + 4 in 4 and 3", z.set(3, 1), 8);
+        z.begin(4, 2);
+        z.add(4);
+        z.add(4);
+        same("4 + 4 in 4 and 2", z.set(3, 1), 0);
+        same("block of 4 4 in 4 and 2", z.set(3, 2), 1);
+    }
+
     private static void promise3Add() {
         ZeroParts z = with(2, 3);
         for (int k = 0; k < 10; k++) {
@@ -157,6 +178,10 @@ public final class PromisesTest {
         same("removeAt of the only", z.removeAt(0), 3);
         same("size after all removals", z.whole(4), 0);
         Check.failsOnIndex(z, "removeAt(0) of an empty sequence", () -> z.removeAt(0));
+        ZeroParts other = with(6, 1, 1, 2, 3);
+        same("sum of 1 2 3", other.whole(5), 0);
+        other.removeAt(0);
+        same("sum of 2 3", other.whole(5), 5);
         z.undo();
         z.undo();
         z.undo();
@@ -199,6 +224,10 @@ public final class PromisesTest {
         ZeroParts fours = with(3, 1, 1, 1, 2, 1, 2, 1, 1);
         same("laySplit of 1 1 2 1 2 1 1", fours.laySplit(), 3);
         parts(fours, "laySplit of 1 1 2 1 2 1 1", 0, 1, 0, 2, 1, 2, 2);
+        // {1, 2} has a lower number than {0, 3}, but not the place 0.
+        ZeroParts nested = with(6, 1, 1, 2, 4, 5);
+        same("laySplit of 1 2 4 5", nested.laySplit(), 2);
+        parts(nested, "laySplit of 1 2 4 5", 0, 1, 1, 0);
         ZeroParts one = with(6, 1, 1, 1, 1, 1, 1, 1);
         same("laySplit of a block", one.laySplit(), 1);
         same("part 0 of a block", one.part(0, 0), 63);
@@ -356,6 +385,11 @@ public final class PromisesTest {
         same("block(0) after undo", z.block(0), 3);
         z.begin(5, 1);
         same("block(0) of nothing", z.block(0), -1);
+        z.add(1);
+        z.add(0);
+        same("block(0) of 1 0", z.block(0), 2);
+        z.removeAt(1);
+        same("block(0) of 1", z.block(0), -1);
     }
 
     private static void promise13Part() {
@@ -605,6 +639,16 @@ public final class PromisesTest {
         faults("  ad", 2);
         faults("ad 1;", 0);
         faults("adds 1;", 0);
+        faults("addz 1;", 0);
+        faults("bdd 1;", 0);
+        faults("adc 1;", 0);
+        faults("add`", 3);
+        faults("add{", 3);
+        faults("add /;", 4);
+        faults("add :;", 4);
+        faults("add 1/;", 5);
+        faults("add 1:;", 5);
+        faults("lay 1;x", 5);
         faults("add", 3);
         faults("add;", 3);
         faults("add1;", 3);
