@@ -1,3 +1,6 @@
+import java.util.ArrayList;
+import java.util.List;
+
 /** Counts the answers of one test class and tells the wrong ones. */
 final class Check {
     /** A call whose exception is looked at. */
@@ -5,28 +8,71 @@ final class Check {
         long answer();
     }
 
+    /** A sentence of the document under one of its headings, on which a test has its eye. */
+    record Sentence(String heading, String text) {
+    }
+
+    private static final List<Sentence> SENTENCES = new ArrayList<>();
+
     private static int right = 0;
     private static int wrong = 0;
+    private static int answersBefore = 0;
+    private static Sentence current = null;
 
     private Check() {
+    }
+
+    /** Names the sentence that the answers from here on are about. */
+    static void says(String heading, String sentence) {
+        endSentence();
+        current = new Sentence(heading, sentence);
+        SENTENCES.add(current);
+    }
+
+    /** The sentences that were named, each of which must have had an answer. */
+    static List<Sentence> sentences() {
+        endSentence();
+        current = null;
+        return SENTENCES;
+    }
+
+    private static void endSentence() {
+        if (current != null && right + wrong == answersBefore) {
+            isTrue("an answer about this sentence", false);
+        }
+        answersBefore = right + wrong;
     }
 
     static void same(String what, long got, long want) {
         if (got == want) {
             right++;
         } else {
-            wrong++;
-            System.out.println(what + " answered " + got + ", due is " + want);
+            tellWrong(what + " answered " + got + ", due is " + want);
         }
+    }
+
+    static void isTrue(String what, boolean holds) {
+        same(what, holds ? 1 : 0, 1);
     }
 
     static void sameText(String what, String got, String want) {
         if (got.equals(want)) {
             right++;
         } else {
-            wrong++;
-            System.out.println(what + " answered " + got + ", due is " + want);
+            tellWrong(what + " answered " + got + ", due is " + want);
         }
+    }
+
+    static void sameDouble(String what, double got, double want) {
+        same(what, Double.doubleToLongBits(got), Double.doubleToLongBits(want));
+    }
+
+    private static void tellWrong(String message) {
+        wrong++;
+        if (current != null) {
+            System.out.println("[" + current.heading() + "] " + current.text());
+        }
+        System.out.println("    " + message);
     }
 
     /** The answer as a text, or the name of the exception behind "throws.". */
