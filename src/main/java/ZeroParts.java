@@ -285,9 +285,6 @@ public final class ZeroParts {
         if (!now.hasPlaces(one) || !now.hasPlaces(other)) {
             throw new IllegalArgumentException("a set has places of the sequence only");
         }
-        if (Integer.bitCount(one) != Integer.bitCount(other)) {
-            return 0;
-        }
         for (int place = 0; place < now.size; place++) {
             int element = now.elements[place];
             if (now.timesOf(element, one) != now.timesOf(element, other)) {

@@ -60,6 +60,7 @@ final class ChangeBoundaries {
         Check.same("part of the first place then", z.at(0, 1), 0);
         z.begin(2, 3);
         Check.same("elements after the same group once more", z.whole(4), 0);
+        sameElementsElsewhere();
         Check.says(BEGIN, "Undoable.");
         State state = State.of(6, 6, 35, 1, 5).laid(5, 4, 4);
         Answers.savesOne(state, "begin(1, 1)", each -> each.begin(1, 1));
@@ -71,6 +72,20 @@ final class ChangeBoundaries {
         Check.same("begin(6, 1)", z.begin(6, 1), 6);
         Check.same("begin(5, 6)", z.begin(5, 6), 30);
         Check.same("begin(6, 6)", z.begin(6, 6), 36);
+    }
+
+    /** The same elements in another group, with no question between, have other sums and blocks. */
+    private static void sameElementsElsewhere() {
+        int[][] groups = {{2, 3}, {2, 4}, {4, 4}, {4, 2}, {6, 2}, {6, 6}, {3, 6}, {3, 3}, {3, 2}, {2, 3}};
+        ZeroParts z = new ZeroParts();
+        for (int[] group : groups) {
+            z.begin(group[0], group[1]);
+            for (int k = 0; k < 4; k++) {
+                z.add(2);
+            }
+            State state = State.times(group[0], group[1], 2, 4);
+            Check.sameText("2 2 2 2 in " + group[0] + " and " + group[1], Answers.state(z), Answers.state(state.byCalls()));
+        }
     }
 
     private static void beginRange() {

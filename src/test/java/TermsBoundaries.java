@@ -218,6 +218,18 @@ final class TermsBoundaries {
         Check.same("ten of the order 10", ten.set(1023, 2), 1);
         Check.same("nine of them", ten.set(1022, 2), 0);
         Check.same("ten of the order 5", State.times(5, 1, 1, 10).byCalls().set(1023, 2), 0);
+        // Blocks of what stood at the same places before are forgotten.
+        int[][] rows = {{1, 0, 5}, {1, 5, 0}, {1, 5}, {0}, {1, 2, 3}, {5, 5, 5, 1}, {3, 3, 3, 0, 0}, {3, 1, 3, 5}, {1, 1, 1}, {1, 1, 4, 1}};
+        ZeroParts one = new ZeroParts();
+        for (int[] row : rows) {
+            for (int place = one.whole(4) - 1; place >= 0; place--) {
+                one.removeAt(place);
+            }
+            for (int element : row) {
+                one.add(element);
+            }
+            Check.sameText("blocks of the next row", Answers.state(one), Answers.state(State.of(6, 1, row).byCalls()));
+        }
     }
 
     private static void splits() {

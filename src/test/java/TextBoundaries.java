@@ -228,6 +228,16 @@ final class TextBoundaries {
         fault("add 1; split ; lay 1 ; ?", 21);
         fault("add 1;".repeat(24) + "add 1?", 149);
         fault("?" + " ".repeat(149), 0);
+        // Of several faults the first.
+        fault("add 1 add 2", 6);
+        fault("add 1 add ?", 6);
+        fault("add ? add ?", 4);
+        fault("add; zz; ?", 3);
+        fault("split ? split", 6);
+        fault("lay 1; lay 1", 5);
+        fault("lay ? ? ?", 4);
+        fault("zz ?", 0);
+        fault("? zz", 0);
     }
 
     /** Each text that a faultless one begins with: the faults of those that end too soon are their lengths. */
@@ -254,14 +264,20 @@ final class TextBoundaries {
 
     private static void unknownWords() {
         Check.says(HEADING, "A word that is not one of these is at fault with its first byte, ");
-        fault("ad;", 0);
-        fault("addd 1;", 0);
-        fault("dad 1;", 0);
-        fault("splits;", 0);
-        fault("grou 1 1;", 0);
-        fault("groups 1 1;", 0);
-        fault("minu 1;", 0);
-        fault("lax 1 1;", 0);
+        String[] known = {"group", "add", "minus", "lay", "split"};
+        String[] numbers = {" 1 1;", " 1;", " 1;", " 1 1;", ";"};
+        for (int k = 0; k < known.length; k++) {
+            fault(known[k] + numbers[k], -1);
+            for (int at = 0; at < known[k].length(); at++) {
+                String before = known[k].substring(0, at);
+                String behind = known[k].substring(at + 1);
+                fault(before + behind + numbers[k], 0);
+                fault(before + "z" + behind + numbers[k], 0);
+                fault(before + "z" + known[k].charAt(at) + behind + numbers[k], 0);
+            }
+            fault(known[k] + "s" + numbers[k], 0);
+            fault(known[k] + known[k] + numbers[k], 0);
+        }
         fault("z", 0);
         fault("   zz 1;", 3);
         fault("add 1; zz;", 7);
@@ -316,6 +332,16 @@ final class TextBoundaries {
             Answers.type(twin, text);
             Check.isTrue("fault of '" + text + "'", Answers.run(z, text) <= -10);
             Check.sameText("what '" + text + "' leaves", Answers.whole(z), Answers.whole(twin));
+        }
+        // The next text is read as if there had been no fault.
+        String[] faulty = {"add x", "lay 1 x", "lay x", "group 1", "group 99 99", "split", "zz", "?"};
+        String[] next = {"group 6 1;", "add 0;", "minus 1;", "lay 0 1;", "split;", ""};
+        for (String text : faulty) {
+            for (String other : next) {
+                ZeroParts z = State.of(6, 1, 1, 5).byCalls();
+                Answers.run(z, text);
+                Check.same("run of '" + other + "' behind '" + text + "'", Answers.run(z, other), other.isEmpty() ? 0 : 1);
+            }
         }
     }
 
