@@ -1,6 +1,8 @@
 import java.io.IOException;
 import java.nio.file.Files;
 import java.nio.file.Path;
+import java.util.regex.Matcher;
+import java.util.regex.Pattern;
 
 /**
  * A test for each sentence of the document's terms and promises, at its boundary cases. Each test
@@ -33,18 +35,24 @@ public final class BoundariesTest {
             "`reason`, `freeElement`, `freeFor`, `blocksWith`, `alike`, `unlikeBlocks`",
             "`type`, `clearCommands`, `runCommands`, `undo`, `digest`"};
         String source = Files.readString(SOURCE);
-        int at = 0;
         for (int k = 0; k < headings.length; k++) {
-            Check.says("EXCEPTIONS", "Ahead of the calls " + calls[k] + " the interface says: ---- " + headings[k] + ".");
-            int heading = source.indexOf("// ---- " + headings[k] + "\n", at);
-            Check.isTrue("the heading stands behind the calls before", heading >= at);
-            at = heading;
-            for (String call : calls[k].replace("`", "").split(", ")) {
-                int found = source.indexOf(" " + call + "(", source.indexOf("    public ", at));
-                Check.isTrue(call + " stands behind the call before", found > at);
-                at = found;
-            }
+            int from = source.indexOf("// ---- " + headings[k] + "\n");
+            int to = k + 1 < headings.length ? source.indexOf("// ---- " + headings[k + 1] + "\n") : source.length();
+            String due = calls[k].replace("`", "");
+            Check.test("EXCEPTIONS", "Ahead of the calls " + calls[k] + " the interface says: ---- " + headings[k] + ".", () -> {
+                Check.isTrue("the heading stands ahead of the next", from >= 0 && from < to);
+                Check.sameText("the calls between", callsIn(source.substring(from, to)), due);
+            });
         }
+    }
+
+    private static String callsIn(String source) {
+        StringBuilder names = new StringBuilder();
+        Matcher matcher = Pattern.compile("\n    public \\w+ (\\w+)\\(").matcher(source);
+        while (matcher.find()) {
+            names.append(names.length() == 0 ? "" : ", ").append(matcher.group(1));
+        }
+        return names.toString();
     }
 
     private static void quotes() throws IOException {

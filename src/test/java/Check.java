@@ -16,31 +16,27 @@ final class Check {
 
     private static int right = 0;
     private static int wrong = 0;
-    private static int answersBefore = 0;
     private static Sentence current = null;
 
     private Check() {
     }
 
-    /** Names the sentence that the answers from here on are about. */
-    static void says(String heading, String sentence) {
-        endSentence();
+    /** Runs the test of a sentence. An exception that gets out of it ends this one test alone. */
+    static void test(String heading, String sentence, Runnable test) {
         current = new Sentence(heading, sentence);
         SENTENCES.add(current);
-    }
-
-    /** The sentences that were named, each of which must have had an answer. */
-    static List<Sentence> sentences() {
-        endSentence();
-        current = null;
-        return SENTENCES;
-    }
-
-    private static void endSentence() {
-        if (current != null && right + wrong == answersBefore) {
-            isTrue("an answer about this sentence", false);
+        int before = right + wrong;
+        try {
+            test.run();
+            isTrue("an answer about this sentence", right + wrong > before);
+        } catch (RuntimeException e) {
+            tellWrong("the test ended with " + e + " at " + e.getStackTrace()[0]);
         }
-        answersBefore = right + wrong;
+        current = null;
+    }
+
+    static List<Sentence> sentences() {
+        return SENTENCES;
     }
 
     static void same(String what, long got, long want) {
