@@ -6,6 +6,9 @@ final class Answers {
         long on(ZeroParts z);
     }
 
+    /** Of the sets of ten places no more can be blocks, as none contains another. */
+    static final int MOST_BLOCKS = 252;
+
     private Answers() {
     }
 
@@ -30,7 +33,7 @@ final class Answers {
             seen.append(' ').append(z.at(place, 0)).append('/').append(z.at(place, 1));
         }
         seen.append(" blocks");
-        for (int index = 0; z.block(index) != ZeroParts.NONE; index++) {
+        for (int index = 0; index < MOST_BLOCKS && z.block(index) != ZeroParts.NONE; index++) {
             seen.append(' ').append(z.block(index));
         }
         return seen.append(" sums ").append(z.sums()).toString();
@@ -88,6 +91,9 @@ final class Answers {
 
     /** The call answers, and changes nothing, not the undo stack either. */
     static void changesNothing(State state, String what, Act act) {
+        ZeroParts first = state.byRun();
+        act.on(first);
+        Check.sameText("undo right after " + what, Check.answerOf(() -> first.undo()), "0");
         ZeroParts z = state.byCalls();
         act.on(z);
         Check.sameText(what + " after calls changes nothing", whole(z), whole(state.byCalls()));

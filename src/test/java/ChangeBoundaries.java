@@ -88,8 +88,10 @@ final class ChangeBoundaries {
             for (int k = 0; k < 4; k++) {
                 z.add(2);
             }
+            String what = "2 2 2 2 in " + group[0] + " and " + group[1];
             State state = State.times(group[0], group[1], 2, 4);
-            Check.sameText("2 2 2 2 in " + group[0] + " and " + group[1], Answers.state(z), Answers.state(state.byCalls()));
+            Check.same("first block of " + what, z.block(0), state.byCalls().block(0));
+            Check.sameText(what, Answers.state(z), Answers.state(state.byCalls()));
         }
     }
 

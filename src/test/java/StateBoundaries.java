@@ -273,7 +273,7 @@ final class StateBoundaries {
         for (int what = 1; what <= 5; what++) {
             row.add(z.set((1 << z.whole(4)) - 1, what));
         }
-        for (int index = 0; z.block(index) != ZeroParts.NONE; index++) {
+        for (int index = 0; index < Answers.MOST_BLOCKS && z.block(index) != ZeroParts.NONE; index++) {
             row.add(z.block(index));
         }
         row.add(z.freeElement());

@@ -428,7 +428,7 @@ final class TermsBoundaries {
     private static void refusedTextAndUndo() {
         ZeroParts z = new ZeroParts();
         Answers.type(z, "add 1;".repeat(25));
-        Check.failsOnState(z, "type of the 151st byte", () -> z.type(';'));
+        Check.failsOnState(z, "type of the 151st byte", () -> z.type('?'));
         Check.same("run of the full text", z.runCommands(), 10);
         z.undo();
         Check.failsOnState(z, "undo of nothing", () -> z.undo());
@@ -466,6 +466,7 @@ final class TermsBoundaries {
         });
         Check.test("EXCEPTIONS", "The constants: `NONE = -1`: Returned where there is no such value.", () -> {
             Check.same("NONE", ZeroParts.NONE, -1);
+            Check.same("block(0) of nothing", new ZeroParts().block(0), -1);
             Check.same("block(0) without blocks", State.of(6, 1, 1, 1).byCalls().block(0), -1);
             Check.same("freeElement() without one", State.of(6, 1, 0).byCalls().freeElement(), -1);
         });

@@ -473,6 +473,9 @@ final class ValueBoundaries {
             Check.same("sum of 5", changing.whole(5), 5);
             changing.undo();
             Check.same("blocks of 1 5 again", changing.whole(7), 1);
+            changing.removeAt(1);
+            Check.same("blocks of 1", changing.whole(7), 0);
+            Check.same("smallest block of 1", changing.whole(8), 0);
         });
         Check.test(WHOLE, "Throws `IllegalArgumentException` if what is out of range", () -> {
             for (int wrong : Answers.outside(0, 13)) {

@@ -223,7 +223,7 @@ final class WhatIfBoundaries {
                     longer.add(e);
                     int[] due = new int[12];
                     int place = longer.whole(4) - 1;
-                    for (int index = 0; longer.block(index) != ZeroParts.NONE; index++) {
+                    for (int index = 0; index < Answers.MOST_BLOCKS && longer.block(index) != ZeroParts.NONE; index++) {
                         due[Integer.bitCount(longer.block(index))] += longer.block(index) >> place & 1;
                     }
                     for (int places = 1; places <= 11; places++) {
